@@ -261,7 +261,12 @@ public final class PageRounds {
 
     private boolean comes(int[] octets) {
         trail.remember(state);
-        return Receiver.take(state, octets);
+        state.came++;
+        boolean taken = Receiver.take(state, octets);
+        if (!taken) {
+            state.lost++;
+        }
+        return taken;
     }
 
     private static int bodyOctet(int kind, int figure) {
@@ -325,7 +330,7 @@ public final class PageRounds {
 
         /** All but the seed, which stays when deeds are undone. */
         void become(State other) {
-            System.arraycopy(other.cells, 0, cells, 0, cells.length);
+            System.arraycopy(other.cells, 0, cells, 0, other.pages * CELLS);
             System.arraycopy(other.open, 0, open, 0, open.length);
             pages = other.pages;
             came = other.came;
@@ -335,7 +340,7 @@ public final class PageRounds {
         }
 
         int draw(int n) {
-            seed = (int) ((seed * 1103515245L + 12345L) & Integer.MAX_VALUE);
+            seed = (int) ((seed * 1103515245L + 12345L) % 2147483648L);
             return n < 1 ? 0 : seed / 65536 % n;
         }
 
@@ -457,19 +462,14 @@ public final class PageRounds {
 
     /** Puts what a packet of ten octets brings into a state. */
     private static final class Receiver {
+        /** Whether the packet was taken; else it is lost. */
         static boolean take(State state, int[] octets) {
-            state.came++;
             state.countMended(octets, 0, BODY);
             int book = Guard.decode(octets[0]);
             int kind = Guard.decode(octets[1]);
-            boolean taken = isWithin(book, 0, BOOKS - 1) && takeKind(state, book, kind, octets);
-            if (!taken) {
-                state.lost++;
+            if (!isWithin(book, 0, BOOKS - 1)) {
+                return false;
             }
-            return taken;
-        }
-
-        private static boolean takeKind(State state, int book, int kind, int[] octets) {
             switch (kind) {
                 case HEAD: return takeHead(state, book, octets);
                 case LINKING: return takeLinks(state, state.open[book], octets);
