@@ -185,7 +185,7 @@ public final class PageRounds {
         }
         rounds.prepare(state);
         rounds.run(rule, n);
-        return rounds.waited[k];
+        return rounds.waitOf(k);
     }
 
     public int bestRule(int n) {
@@ -341,7 +341,7 @@ public final class PageRounds {
 
         int draw(int n) {
             seed = (int) ((seed * 1103515245L + 12345L) % 2147483648L);
-            return n < 1 ? 0 : seed / 65536 % n;
+            return n < 1 ? 0 : Math.floorMod(seed / 65536, n);
         }
 
         void countMended(int[] octets, int from, int end) {
@@ -397,7 +397,9 @@ public final class PageRounds {
         }
 
         void clear(int k) {
-            Arrays.fill(cells, k * CELLS + FIRST_LINK, (k + 1) * CELLS, NONE);
+            if (k >= 0 && k < MOST_PAGES) {
+                Arrays.fill(cells, k * CELLS + FIRST_LINK, (k + 1) * CELLS, NONE);
+            }
         }
 
         int search(int book, int number, int part) {
@@ -421,7 +423,9 @@ public final class PageRounds {
             headsTaken++;
             set(k, LAST_HEAD, headsTaken);
             set(k, HEADS, Math.min(get(k, HEADS) + 1, MOST_HEADS));
-            open[book] = k;
+            if (isWithin(book, 0, BOOKS - 1)) {
+                open[book] = k;
+            }
             return k;
         }
 
@@ -438,6 +442,9 @@ public final class PageRounds {
         }
 
         void remove(int k) {
+            if (!has(k)) {
+                return;
+            }
             System.arraycopy(cells, (k + 1) * CELLS, cells, k * CELLS, (pages - 1 - k) * CELLS);
             pages--;
             for (int book = 0; book < BOOKS; book++) {
@@ -464,6 +471,9 @@ public final class PageRounds {
     private static final class Receiver {
         /** Whether the packet was taken; else it is lost. */
         static boolean take(State state, int[] octets) {
+            if (octets.length < OCTETS) {
+                return false;
+            }
             state.countMended(octets, 0, BODY);
             int book = Guard.decode(octets[0]);
             int kind = Guard.decode(octets[1]);
@@ -655,11 +665,11 @@ public final class PageRounds {
         private final int[] weights = new int[MOST_PAGES];
         private final int[] times = new int[MOST_PAGES];
         private final int[] ends = new int[MOST_PAGES];
-        final int[] waited = new int[MOST_PAGES];
+        private final int[] waited = new int[MOST_PAGES];
         private int pages, time;
 
         void prepare(State state) {
-            pages = state.pages;
+            pages = Math.min(state.pages, MOST_PAGES);
             for (int k = 0; k < pages; k++) {
                 lengths[k] = Asked.length(state, k);
                 weights[k] = state.get(k, State.WEIGHT);
@@ -684,6 +694,10 @@ public final class PageRounds {
                 waitEnds(other);
             }
             return k;
+        }
+
+        int waitOf(int k) {
+            return isWithin(k, 0, pages - 1) ? waited[k] : NONE;
         }
 
         int best(int sendings) {

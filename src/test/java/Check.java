@@ -73,6 +73,22 @@ final class Check {
         return sum % 2 == 0 ? 1 : 0;
     }
 
+    /** What an octet is READ as, from the words of the document; NONE. */
+    static int read(int octet) {
+        for (int v = 0; v < 16; v++) {
+            if (Integer.bitCount(octet ^ coded(v)) < 2) {
+                return v;
+            }
+        }
+        return NONE;
+    }
+
+    /** 1 if an octet is MENDED, else 0. */
+    static int mended(int octet) {
+        int v = read(octet);
+        return v != NONE && coded(v) != octet ? 1 : 0;
+    }
+
     /** A LETTER that is WELL, of its lower seven bits. */
     static int well(int letter) {
         return Integer.bitCount(letter) % 2 == 1 ? letter : letter + 128;
