@@ -108,6 +108,9 @@ public final class AskingEdgesTest {
         Check.due("number 99", x.page(1, 8), 2);
         x.packet(2, 6, Check.links(98, 1, 90, 9));
         Check.due("numbers that no page has", x.page(1, 8), 0);
+        Check.octets(x, Check.tenOctets(2, 1, Check.well(99), 0, 128, Check.well(99), 0, 0, 0, 99));
+        Check.due("letters are no links", x.page(1, 8), 0);
+        Check.due("nor a way", x.far(1, 0), Check.NONE);
     }
 
     // FAR from a PAGE to another (perhaps the same: 0)
