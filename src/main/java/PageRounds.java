@@ -419,6 +419,7 @@ public final class PageRounds {
                     remove(longestAgo());
                 }
                 k = append(book, number, part);
+                clear(k);
             }
             headsTaken++;
             set(k, LAST_HEAD, headsTaken);
@@ -437,12 +438,11 @@ public final class PageRounds {
             set(k, PART, part);
             set(k, HEADS, 0);
             set(k, WEIGHT, 1);
-            clear(k);
             return k;
         }
 
         void remove(int k) {
-            if (!has(k)) {
+            if (k < 0 || k >= pages) {
                 return;
             }
             System.arraycopy(cells, (k + 1) * CELLS, cells, k * CELLS, (pages - 1 - k) * CELLS);
